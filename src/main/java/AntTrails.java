@@ -403,6 +403,11 @@ public final class AntTrails {
             return hasBit(placeSet, place);
         }
 
+        /** Whether it is a place, and the way has not been there. */
+        boolean isNew(int place) {
+            return place != NONE && !hasBit(placeSet, place);
+        }
+
         static void copy(Way from, Way to) {
             if (from == null || to == null) {
                 return;
@@ -427,7 +432,8 @@ public final class AntTrails {
         private final int[] lengths = new int[MOST_PATHS];
         private final int[] trails = new int[MOST_PATHS];
         private final int[] walked = new int[MOST_PATHS];
-        private int closedSet = 0;
+        /** 1 for a closed path, 0 for an open one. */
+        private final int[] closed = new int[MOST_PATHS];
 
         private int food = 1;
         private int x = 1;
@@ -456,7 +462,7 @@ public final class AntTrails {
             copyRow(from.lengths, to.lengths);
             copyRow(from.trails, to.trails);
             copyRow(from.walked, to.walked);
-            to.closedSet = from.closedSet;
+            copyRow(from.closed, to.closed);
             to.food = from.food;
             to.x = from.x;
             copyRow(from.settings, to.settings);
@@ -486,7 +492,7 @@ public final class AntTrails {
         }
 
         boolean isClosed(int path) {
-            return hasBit(closedSet, path);
+            return isPath(path) && closed[path] == 1;
         }
 
         int setting(int what) {
@@ -506,19 +512,13 @@ public final class AntTrails {
 
         /** Where an open path leads from a place, or NONE if it is closed or not there. */
         int across(int path, int place) {
-            if (!isPath(path) || isClosed(path)) {
+            if (!isPath(path) || closed[path] == 1) {
                 return NONE;
             }
             if (oneEnd[path] == place) {
                 return otherEnd[path];
             }
             return otherEnd[path] == place ? oneEnd[path] : NONE;
-        }
-
-        /** Whether an open path leads from the end of a way to a place at which it has not been. */
-        boolean leadsOn(int path, Way way) {
-            int next = across(path, way.end());
-            return next != NONE && !way.hasPlace(next);
         }
 
         int openPaths() {
@@ -587,14 +587,14 @@ public final class AntTrails {
             return path;
         }
 
-        int bar(int path, boolean closed) {
+        int bar(int path, boolean shut) {
             if (!isPath(path)) {
                 return INVALID_ARGUMENT;
             }
-            if (isClosed(path) == closed) {
+            if (isClosed(path) == shut) {
                 return NOT_POSSIBLE;
             }
-            closedSet ^= 1 << path;
+            closed[path] = shut ? 1 : 0;
             return openPaths();
         }
 
@@ -684,6 +684,8 @@ public final class AntTrails {
         private final Way way = new Way();
         /** What the ants of a lap lay waits here, as they all go by the trails ahead of the lap. */
         private final int[] laid = new int[MOST_PATHS];
+        /** The weights by which the ant draws; 0 for a path that it can not take. */
+        private final int[] weights = new int[MOST_PATHS];
 
         /** Returns how many ants found the food in the laps. */
         int passLaps(Ground ground, int laps) {
@@ -694,27 +696,27 @@ public final class AntTrails {
                 return NOT_POSSIBLE;
             }
             int before = ground.ended[FOUND];
-            for (int k = 0; k < laps; k++) {
-                passLap(ground);
+            int ants = ground.setting(ANTS);
+            for (int lap = 0; lap < laps; lap++) {
+                clearLaid();
+                for (int ant = 0; ant < ants; ant++) {
+                    int reason = walk(ground);
+                    ground.countAnt(way, reason);
+                    if (reason == FOUND) {
+                        layTrail(ground.laidOn(way));
+                        ground.keepIfBetter(way);
+                    }
+                }
+                ground.changeTrails(laid);
+                ground.laps++;
             }
             return ground.ended[FOUND] - before;
         }
 
-        private void passLap(Ground ground) {
+        private void clearLaid() {
             for (int path = 0; path < laid.length; path++) {
                 laid[path] = 0;
             }
-            int ants = ground.setting(ANTS);
-            for (int k = 0; k < ants; k++) {
-                int reason = walk(ground);
-                ground.countAnt(way, reason);
-                if (reason == FOUND) {
-                    layTrail(ground.laidOn(way));
-                    ground.keepIfBetter(way);
-                }
-            }
-            ground.changeTrails(laid);
-            ground.laps++;
         }
 
         private void layTrail(int much) {
@@ -727,11 +729,11 @@ public final class AntTrails {
         int walk(Ground ground) {
             way.begin();
             for (int step = 0; step < MOST_PLACES && way.end() != ground.food; step++) {
-                int weights = weightsAhead(ground);
-                if (weights == 0) {
+                int sum = lookAhead(ground);
+                if (sum == 0) {
                     return STUCK;
                 }
-                int path = pathAhead(ground, ground.draw(weights));
+                int path = pathAhead(ground, ground.draw(sum));
                 int farther = ground.lengthOf(path);
                 if (way.length + farther > ground.setting(TIREDNESS)) {
                     return TIRED;
@@ -741,10 +743,13 @@ public final class AntTrails {
             return FOUND;
         }
 
-        private int weightsAhead(Ground ground) {
+        /** Puts down the weights of the paths on which the way can go on. Returns their sum. */
+        private int lookAhead(Ground ground) {
+            int here = way.end();
             int sum = 0;
-            for (int path = 0; path < ground.pathCount; path++) {
-                sum += ground.leadsOn(path, way) ? ground.weight(path) : 0;
+            for (int path = 0; path < ground.pathCount && path < weights.length; path++) {
+                weights[path] = way.isNew(ground.across(path, here)) ? ground.weight(path) : 0;
+                sum += weights[path];
             }
             return sum;
         }
@@ -752,12 +757,10 @@ public final class AntTrails {
         /** The path ahead among whose numbers the drawn one is. */
         private int pathAhead(Ground ground, int drawn) {
             int rest = drawn;
-            for (int path = 0; path < ground.pathCount; path++) {
-                if (ground.leadsOn(path, way)) {
-                    rest -= ground.weight(path);
-                    if (rest < 0) {
-                        return path;
-                    }
+            for (int path = 0; path < ground.pathCount && path < weights.length; path++) {
+                rest -= weights[path];
+                if (rest < 0) {
+                    return path;
                 }
             }
             return NONE;
@@ -814,9 +817,11 @@ public final class AntTrails {
         }
 
         private int greatestAhead(Ground ground) {
+            int here = way.end();
             int greatest = NONE;
             for (int path = 0; path < ground.pathCount; path++) {
-                if (ground.leadsOn(path, way) && (greatest == NONE || isGreater(ground, path, greatest))) {
+                boolean leadsOn = way.isNew(ground.across(path, here));
+                if (leadsOn && (greatest == NONE || isGreater(ground, path, greatest))) {
                     greatest = path;
                 }
             }

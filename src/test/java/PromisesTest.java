@@ -386,6 +386,7 @@ public final class PromisesTest {
         }
         Check.due("10: came to the food", x.placeOf(1, 1), 4);
         Check.due("10: nobody is stuck at the food", x.placeOf(1, 2), 0);
+        Check.due("10: nobody came elsewhere", x.placeOf(2, 1) + x.placeOf(4, 1), 0);
         x.close(4, true);
         x.lap(2);
         Check.due("10: stuck at the nest", x.placeOf(0, 2), 8);
@@ -732,6 +733,10 @@ public final class PromisesTest {
             Check.due("10: placeOf(" + place + ", 3)", x.placeOf(place, 3), place * (place + 1) / 2);
         }
         greedyDue("over all places", x, 45, 9, 1, 9);
+        x.path(9, 2, 20);
+        Check.due("10: a shorter way from the end", x.placeOf(9, 3), 23);
+        Check.due("10: and back from there", x.placeOf(8, 3), 32);
+        x.close(9, true);
         Check.due("6: lap(1) over all places", x.lap(1), 4);
         Check.due("11: best(1)", x.best(1), 9);
         Check.due("11: best(3)", x.best(3), 511);
@@ -752,6 +757,8 @@ public final class PromisesTest {
         Check.due("11: the last path is the best", y.best(3), 1 << 15);
         Check.due("9: pathOf(15, 7)", y.pathOf(15, 7), 1);
         Check.due("14: and the greatest", y.greedy(0), 5);
+        Check.due("15: paths towards the nest", y.over(), 0);
+        Check.due("10: how far it is", y.placeOf(1, 3), 5);
         Check.due("18: the greatest trail", y.count(9), y.pathOf(15, 3));
     }
 
