@@ -34,7 +34,6 @@ public final class PromisesTest {
         whatWouldBe();
         counts();
         undoing();
-        undoingAll();
         undoingEach();
         longestWay();
         typing();
@@ -43,22 +42,6 @@ public final class PromisesTest {
         faultsOfOrders();
         playing();
         Check.end("PromisesTest");
-    }
-
-    private static AntTrails ground(int places) {
-        AntTrails x = new AntTrails();
-        for (int k = 0; k < places; k++) {
-            x.place();
-        }
-        return x;
-    }
-
-    private static AntTrails text(AntTrails x, String text) {
-        x.clearText();
-        for (int k = 0; k < text.length(); k++) {
-            x.type(text.charAt(k));
-        }
-        return x;
     }
 
     private static void aNewObject() {
@@ -91,7 +74,7 @@ public final class PromisesTest {
     }
 
     private static void paths() {
-        AntTrails x = ground(3);
+        AntTrails x = Grounds.of(3);
         x.set(4, 33);
         Check.due("3: path(0, 1, 1)", x.path(0, 1, 1), 0);
         Check.due("3: path(1, 0, 20)", x.path(1, 0, 20), 1);
@@ -111,7 +94,7 @@ public final class PromisesTest {
     }
 
     private static void closing() {
-        AntTrails x = ground(2);
+        AntTrails x = Grounds.of(2);
         x.path(0, 1, 1);
         x.path(0, 1, 2);
         x.path(0, 1, 3);
@@ -128,7 +111,7 @@ public final class PromisesTest {
     }
 
     private static void foods() {
-        AntTrails x = ground(1);
+        AntTrails x = Grounds.of(1);
         Check.due("5: food(1) with one place", x.food(1), INVALID);
         x.place();
         x.place();
@@ -149,7 +132,7 @@ public final class PromisesTest {
     }
 
     private static void lapsOfAnts() {
-        AntTrails x = ground(1);
+        AntTrails x = Grounds.of(1);
         Check.due("6: lap(0) with one place", x.lap(0), INVALID);
         Check.due("6: lap(1) with one place", x.lap(1), NOT_POSSIBLE);
         x.place();
@@ -176,7 +159,7 @@ public final class PromisesTest {
     }
 
     private static void lapsByLot() {
-        AntTrails x = ground(2);
+        AntTrails x = Grounds.of(2);
         x.path(0, 1, 1);
         x.path(0, 1, 2);
         Check.due("6: weights", x.pathOf(0, 5) * 1000 + x.pathOf(1, 5), 201101);
@@ -187,14 +170,14 @@ public final class PromisesTest {
         Check.due("6: the first trail", x.pathOf(0, 3), 8 + 300 + 100);
         Check.due("6: the second trail", x.pathOf(1, 3), 8 + 50);
 
-        x = ground(2);
+        x = Grounds.of(2);
         x.path(0, 1, 3);
         x.path(0, 1, 5);
         x.set(0, 1);
         x.lap(1);
         Check.due("6: 16807 by 67 + 41 is 67: the second one", x.pathOf(1, 6), 1);
 
-        x = ground(2);
+        x = Grounds.of(2);
         x.path(0, 1, 12);
         x.path(0, 1, 17);
         x.set(0, 1);
@@ -204,7 +187,7 @@ public final class PromisesTest {
     }
 
     private static void lapsWithoutFood() {
-        AntTrails x = ground(3);
+        AntTrails x = Grounds.of(3);
         Check.due("6: lap(1) without paths", x.lap(1), 0);
         Check.due("6: stuck at the nest", x.placeOf(0, 2), 4);
         Check.due("6: nothing is drawn then", x.count(11), 1);
@@ -229,7 +212,7 @@ public final class PromisesTest {
     }
 
     private static void bestWayInLaps() {
-        AntTrails x = ground(2);
+        AntTrails x = Grounds.of(2);
         x.path(0, 1, 4);
         x.lap(2);
         Check.due("6: the best is of the first lap", x.best(2), 0);
@@ -248,7 +231,7 @@ public final class PromisesTest {
         // The new one is laid in its lap already: 10 - 2 + 4 * 33 + 33.
         Check.due("6: the better one is laid", x.pathOf(2, 3), 173);
 
-        x = ground(2);
+        x = Grounds.of(2);
         x.path(0, 1, 7);
         x.set(2, 20);
         x.set(3, 9);
@@ -265,7 +248,7 @@ public final class PromisesTest {
     }
 
     private static void boundsAndVapour() {
-        AntTrails x = ground(3);
+        AntTrails x = Grounds.of(3);
         x.path(0, 1, 1);
         x.path(0, 2, 1);
         x.close(1, true);
@@ -293,7 +276,7 @@ public final class PromisesTest {
     }
 
     private static void forgetting() {
-        AntTrails x = ground(2);
+        AntTrails x = Grounds.of(2);
         Check.due("7: forget() without paths", x.forget(), 0);
         Check.due("7: it is a change", x.count(12), 3);
         x.path(0, 1, 3);
@@ -335,7 +318,7 @@ public final class PromisesTest {
     }
 
     private static void pathQuestions() {
-        AntTrails x = ground(3);
+        AntTrails x = Grounds.of(3);
         x.path(2, 1, 6);
         x.path(0, 2, 7);
         x.path(2, 0, 20);
@@ -356,7 +339,7 @@ public final class PromisesTest {
     }
 
     private static void placeQuestions() {
-        AntTrails x = ground(5);
+        AntTrails x = Grounds.of(5);
         x.path(0, 2, 9);
         x.path(0, 3, 2);
         x.path(3, 2, 3);
@@ -397,17 +380,8 @@ public final class PromisesTest {
         Check.due("10: placeOf(4, -1)", x.placeOf(4, -1), INVALID);
     }
 
-    /** A ground whose one way goes over the places 0, 3, 2, 1 by the paths 2, 0, 1. */
-    private static AntTrails winding() {
-        AntTrails x = ground(4);
-        x.path(2, 3, 5);
-        x.path(1, 2, 7);
-        x.path(3, 0, 4);
-        return x;
-    }
-
     private static void bestQuestions() {
-        AntTrails x = winding();
+        AntTrails x = Grounds.winding();
         for (int what = 0; what < 4; what++) {
             Check.due("11: best(" + what + ") without one", x.best(what), NOT_FOUND);
         }
@@ -427,7 +401,7 @@ public final class PromisesTest {
     }
 
     private static void bestSteps() {
-        AntTrails x = winding();
+        AntTrails x = Grounds.winding();
         Check.due("12: bestAt(0) without one", x.bestAt(0), NOT_FOUND);
         Check.due("12: bestAt(-1) without one", x.bestAt(-1), INVALID);
         x.lap(1);
@@ -440,7 +414,7 @@ public final class PromisesTest {
     }
 
     private static void chances() {
-        AntTrails x = ground(3);
+        AntTrails x = Grounds.of(3);
         x.path(0, 1, 1);
         Check.due("13: one alone", x.chance(0, 0), Float.floatToIntBits(1f));
         x.path(1, 0, 1);
@@ -471,7 +445,7 @@ public final class PromisesTest {
     }
 
     private static void greedyWays() {
-        AntTrails x = ground(1);
+        AntTrails x = Grounds.of(1);
         Check.due("14: greedy(0) with one place", x.greedy(0), NOT_POSSIBLE);
         Check.due("14: greedy(4) with one place", x.greedy(4), INVALID);
         x.place();
@@ -501,7 +475,7 @@ public final class PromisesTest {
     }
 
     private static void overTheShortest() {
-        AntTrails x = ground(3);
+        AntTrails x = Grounds.of(3);
         Check.due("15: over() at first", x.over(), NOT_FOUND);
         x.path(0, 1, 9);
         Check.due("15: over() without a best one", x.over(), NOT_FOUND);
@@ -525,7 +499,7 @@ public final class PromisesTest {
     }
 
     private static void oneAnt() {
-        AntTrails x = ground(1);
+        AntTrails x = Grounds.of(1);
         Check.due("16: ant(0) with one place", x.ant(0), NOT_POSSIBLE);
         Check.due("16: ant(3) with one place", x.ant(3), INVALID);
         x.place();
@@ -546,14 +520,14 @@ public final class PromisesTest {
         Check.due("16: ant(3)", x.ant(3), INVALID);
         Check.due("16: ant(-1)", x.ant(-1), INVALID);
         // 16807 by 67 + 51 is 51: the second one, were it the other way round the first
-        AntTrails y = ground(2);
+        AntTrails y = Grounds.of(2);
         y.path(0, 1, 4);
         y.path(0, 1, 3);
         antDue("by lot", y, 0, 3, 1);
     }
 
     private static void whatWouldBe() {
-        AntTrails x = ground(1);
+        AntTrails x = Grounds.of(1);
         Check.due("17: would(1, 0) with one place", x.would(1, 0), NOT_POSSIBLE);
         Check.due("17: would(0, 0) with one place", x.would(0, 0), INVALID);
         Check.due("17: would(1, 4) with one place", x.would(1, 4), INVALID);
@@ -582,7 +556,7 @@ public final class PromisesTest {
     }
 
     private static void counts() {
-        AntTrails x = ground(3);
+        AntTrails x = Grounds.of(3);
         x.path(0, 1, 3);
         x.path(0, 1, 5);
         x.path(0, 2, 4);
@@ -594,7 +568,7 @@ public final class PromisesTest {
         x.close(0, false);
         x.set(6, 2);
         x.lap(1);
-        text(x, "hey");
+        Grounds.text(x, "hey");
         // the trail: 173, then 173 - 34 + 33 = 172, then 172 - 34 + 33 = 171
         int[] due = {3, 3, 1, 3, 12, 4, 4, 4, 191, 171, 1, 0, 4, 3, INVALID, INVALID, INVALID, INVALID,
             INVALID, INVALID, 4, 20, 100, 1, 10, 1000, 2, INVALID, INVALID};
@@ -632,60 +606,15 @@ public final class PromisesTest {
         Check.due("19: paths", x.count(1), 0);
         Check.due("19: the oldest is dropped", x.undo(), NOT_POSSIBLE);
         Check.due("19: places stay", x.count(0), 2);
-        text(x, "l1;");
+        Grounds.text(x, "l1;");
         x.place();
         x.type('l');
         x.undo();
         Check.due("19: the text stays", x.count(13), 4);
     }
 
-    /** All that can be asked about a ground. */
-    private static String all(AntTrails x) {
-        StringBuilder all = new StringBuilder();
-        for (int what = 0; what <= 26; what++) {
-            if (what != 12) {
-                all.append(x.count(what)).append(' ');
-            }
-        }
-        for (int number = 0; number < 16; number++) {
-            for (int what = 0; what < 8; what++) {
-                all.append(x.pathOf(number, what)).append(' ').append(x.placeOf(number, what)).append(' ');
-            }
-            all.append(x.best(number)).append(' ').append(x.bestAt(number)).append(' ');
-        }
-        return all.append(x.ant(1)).append(x.over()).append(x.greedy(0)).toString();
-    }
-
-    private static void undoingAll() {
-        AntTrails x = winding();
-        x.path(0, 2, 11);
-        x.lap(3);
-        x.close(3, true);
-        String before = all(x);
-        x.forget();
-        x.undo();
-        Check.due("19: forget() is undone", all(x).equals(before) ? 1 : 0, 1);
-        x.food(3);
-        x.undo();
-        Check.due("19: food() is undone", all(x).equals(before) ? 1 : 0, 1);
-        text(x, "p0,1,1;o3;c0;s6,99;l5;f2;l5;");
-        before = all(x);
-        Check.due("19: play()", x.play(), 7);
-        x.undo();
-        Check.due("19: play() is undone", all(x).equals(before) ? 1 : 0, 1);
-        x.place();
-        x.path(0, 4, 1);
-        x.close(3, false);
-        x.lap(5);
-        x.undo();
-        x.undo();
-        x.undo();
-        x.undo();
-        Check.due("19: four changes are undone", all(x).equals(before) ? 1 : 0, 1);
-    }
-
     private static void undoingEach() {
-        AntTrails x = winding();
+        AntTrails x = Grounds.winding();
         x.lap(1);
         x.set(2, 7);
         x.food(3);
@@ -709,7 +638,7 @@ public final class PromisesTest {
         Check.due("19: and of the first one again", x.best(2), 0);
 
         // the place where the oldest state stood is used again
-        x = ground(6);
+        x = Grounds.of(6);
         x.undo();
         x.undo();
         x.undo();
@@ -724,7 +653,7 @@ public final class PromisesTest {
 
     /** Over all places, by paths that are laid from the food on. */
     private static void longestWay() {
-        AntTrails x = ground(10);
+        AntTrails x = Grounds.of(10);
         x.food(9);
         for (int place = 9; place > 0; place--) {
             x.path(place - 1, place, place);
@@ -746,7 +675,7 @@ public final class PromisesTest {
         Check.due("10: placeOf(9, 4)", x.placeOf(9, 4), 1);
 
         // sixteen paths, the last one there being the best
-        AntTrails y = ground(2);
+        AntTrails y = Grounds.of(2);
         for (int k = 20; k > 4; k--) {
             y.path(1, 0, k);
         }
@@ -780,7 +709,7 @@ public final class PromisesTest {
     }
 
     private static void clearing() {
-        AntTrails x = text(new AntTrails(), "l1;x");
+        AntTrails x = Grounds.text(new AntTrails(), "l1;x");
         Check.due("21: clearText()", x.clearText(), 4);
         Check.due("21: clearText() again", x.clearText(), 0);
         Check.due("21: the length", x.count(13), 0);
@@ -790,7 +719,7 @@ public final class PromisesTest {
     }
 
     private static void faultDue(AntTrails x, String text, int position, int reason, int cause) {
-        text(x, text);
+        Grounds.text(x, text);
         Check.due("22: position of the fault of " + text, x.fault(0), position);
         Check.due("22: reason of the fault of " + text, x.fault(1), reason);
         Check.due("22: cause of the fault of " + text, x.fault(2), cause);
@@ -801,8 +730,6 @@ public final class PromisesTest {
     }
 
     private static void faultsOfForm() {
-        AntTrails x = ground(2);
-        x.path(0, 1, 3);
         String[] texts = {";", " l1;", "x1;", "P0,1,1;", "l", "l;", "l1", "l1,", "l12345;", "l 1;", "l-1;",
             "c", "c,", "c0", "c0 ;", "o;", "o00000;", "f", "fx;", "s1;", "s", "s1", "s1,", "s,1;", "s1,;",
             "s1,2", "s1,2,3;", "s1,12345;", "p", "p0;", "p0,", "p0,1", "p0,1;", "p0,1,", "p0,1,;", "p0,1,2",
@@ -813,16 +740,18 @@ public final class PromisesTest {
             6, 5, 1, 2};
         Check.due("22: as many texts as causes", texts.length, causes.length);
         for (int k = 0; k < texts.length; k++) {
+            AntTrails x = Grounds.withPaths(3);
             faultDue(x, texts[k], 0, 1, causes[k]);
             faultDue(x, "l1;s0,0005;" + texts[k], 11, 1, causes[k]);
+            Check.due("22: nothing changes", x.count(3) + x.count(20), 4);
         }
-        Check.due("22: nothing changes", x.count(3) + x.count(20), 4);
+        AntTrails x = Grounds.withPaths(3);
         Check.due("22: fault(3)", x.fault(3), INVALID);
         Check.due("22: fault(-1)", x.fault(-1), INVALID);
     }
 
     private static void faultsOfOrders() {
-        AntTrails x = ground(3);
+        AntTrails x = Grounds.of(3);
         faultDue(x, "", NOT_FOUND, NOT_FOUND, NOT_FOUND);
         faultDue(x, "p0,1,3;c0;o0000;f2;s0,5;l5;", NOT_FOUND, NOT_FOUND, NOT_FOUND);
         faultDue(x, "p0,0,3;", 0, 2, INVALID);
@@ -840,7 +769,7 @@ public final class PromisesTest {
         faultDue(x, "l9999;", 0, 2, INVALID);
         faultDue(x, "l6;x", 0, 2, INVALID);
         faultDue(x, "l5;x;l6;", 3, 1, 0);
-        faultDue(ground(1), "s0,1;l5;", 5, 2, NOT_POSSIBLE);
+        faultDue(Grounds.of(1), "s0,1;l5;", 5, 2, NOT_POSSIBLE);
         for (int k = 0; k < 15; k++) {
             x.path(0, 1, 1);
         }
@@ -852,8 +781,8 @@ public final class PromisesTest {
         AntTrails x = new AntTrails();
         Check.due("23: play() of an empty text", x.play(), 0);
         Check.due("23: it is a change", x.count(12), 1);
-        x = ground(3);
-        text(x, "p0,2,3;p02,001,4;p0,1,20;c2;s0,2;l1;");
+        x = Grounds.of(3);
+        Grounds.text(x, "p0,2,3;p02,001,4;p0,1,20;c2;s0,2;l1;");
         Check.due("23: play()", x.play(), 6);
         Check.due("23: one change", x.count(12), 4);
         Check.due("23: the text stays", x.count(13), 36);
@@ -865,7 +794,7 @@ public final class PromisesTest {
         Check.due("23: play() again", x.play(), NOT_POSSIBLE);
         Check.due("23: its fault", x.fault(0), 25);
         Check.due("23: nothing is done of it", x.count(1) + x.count(12), 7);
-        text(x, "o2;f2;l2");
+        Grounds.text(x, "o2;f2;l2");
         Check.due("23: play() of one that breaks off", x.play(), NOT_POSSIBLE);
         Check.due("23: nothing is done of that", x.count(10) * 10 + x.count(2), 12);
         x.type(';');
