@@ -50,6 +50,7 @@ public final class EdgesTest {
         wouldOfNone();
         wouldAsLap();
         count();
+        countAnts();
         countTrails();
         undo();
         undoEach();
@@ -419,9 +420,14 @@ public final class EdgesTest {
         for (int place = 9; place > 0; place--) {
             y.path(place, place - 1, 20);
         }
+        AntTrails z = Grounds.of(10);
+        for (int place = 1; place < 10; place++) {
+            z.path(place - 1, place, 20);
+        }
         y.set(6, 1);
         for (int place = 0; place < 10; place++) {
             Check.due("placeOf(" + place + ", 3)", y.placeOf(place, 3), 20 * place);
+            Check.due("placeOf(" + place + ", 3), away from the nest", z.placeOf(place, 3), 20 * place);
         }
     }
 
@@ -769,6 +775,33 @@ public final class EdgesTest {
         Check.due("count(2)", full.count(2), 14);
         Check.due("count(12)", full.count(12), 4);
         Check.due("count(13)", full.count(13), 60);
+    }
+
+    private static void countAnts() {
+        Check.says("Promise 18: 3: laps so far; 4: ants so far; 5: ants that found the food so far; 6: ants that got"
+            + " stuck so far; 7: ants that got tired so far");
+        AntTrails x = Grounds.of(2);
+        Check.range("lap(laps)", laps -> x.lap(laps), 1, 5);
+        int[] stuck = {6, 24, 0, 24, 0};
+        int[] tired = {7, 28, 0, 24, 4};
+        int[] found = {9, 38, 10, 24, 4};
+        for (int k = 0; k < 5; k++) {
+            Check.due("count(" + (3 + k) + ") of stuck ones", x.count(3 + k), stuck[k]);
+        }
+        x.path(0, 1, 2);
+        x.set(6, 1);
+        x.lap(1);
+        for (int k = 0; k < 5; k++) {
+            Check.due("count(" + (3 + k) + ") with tired ones", x.count(3 + k), tired[k]);
+        }
+        x.set(6, 2);
+        x.set(0, 5);
+        x.lap(2);
+        for (int k = 0; k < 5; k++) {
+            Check.due("count(" + (3 + k) + ") with those that found it", x.count(3 + k), found[k]);
+        }
+        x.forget();
+        Check.due("count(4) when the best way is forgotten", x.count(4), 38);
     }
 
     private static void countTrails() {
