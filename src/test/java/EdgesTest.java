@@ -712,8 +712,8 @@ public final class EdgesTest {
     }
 
     private static void wouldOfNone() {
-        Check.says("Promise 17: 0: ants that would find the food; 1: ants that would be stuck; 2: the length of the best"
-            + " way then (NOT_FOUND without one); 3: all trails together then");
+        Check.says("Promise 17: 0: ants that would find the food; 1: ants that would be stuck; 2: the length of the"
+            + " best way then (NOT_FOUND without one); 3: all trails together then");
         AntTrails x = Grounds.withPaths(5);
         x.lap(2);
         dues("would(5) after laps", x, (of, what) -> of.would(5, what), 20, 0, 5);
@@ -828,7 +828,8 @@ public final class EdgesTest {
     }
 
     private static void undo() {
-        Check.says("Promise 19: Returns the number of states that are left in the history; NOT_POSSIBLE if it is empty");
+        Check.says("Promise 19: Returns the number of states that are left in the history; NOT_POSSIBLE if it is"
+            + " empty");
         AntTrails x = new AntTrails();
         Check.due("undo() at first", x.undo(), NOT_POSSIBLE);
         x.place();
